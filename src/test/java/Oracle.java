@@ -672,7 +672,7 @@ final class Oracle {
         if (acts.isEmpty()) {
             return NONE;
         }
-        world = acts.remove(acts.size() - 1);
+        world = acts.remove(acts.size() - 1).copy();
         return acts.size();
     }
 

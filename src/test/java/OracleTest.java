@@ -144,10 +144,21 @@ public final class OracleTest {
             case "grudge": return new int[] {h};
             case "see": return sight(b);
             case "wrong": return new int[] {near(0, 2)};
-            case "game": return new int[] {h, g, near(0, 1)};
+            case "game": return feuding(h, g);
             case "summer": return new int[] {random.nextInt(), near(0, 60), near(0, 2)};
             default: return new int[0];
         }
+    }
+
+    private int[] feuding(int h, int g) {
+        for (int tries = 0; tries < 20; tries++) {
+            int a = any(0, 5);
+            int b = any(0, 5);
+            if (oracle.world.feud[a][b]) {
+                return new int[] {a, b, near(0, 1)};
+            }
+        }
+        return new int[] {h, g, near(0, 1)};
     }
 
     /** Often what will be so, or would be so by another anger, so that doubts remain. */
