@@ -1,4 +1,8 @@
-import java.util.NoSuchElementException;
+import java.lang.reflect.InvocationTargetException;
+import java.lang.reflect.Method;
+import java.util.Arrays;
+import java.util.HashMap;
+import java.util.Map;
 import java.util.Random;
 
 /** Long random runs of calls, each answered by the program and by the naive Oracle; the seeds are fixed. */
@@ -7,6 +11,8 @@ public final class OracleTest {
         "swallow", "draw", "broth", "make", "undo", "then", "peace", "fights", "rests", "worst", "takeIn", "throats",
         "toDraw", "toSwallow", "camps", "couples", "grudge", "foes", "parts", "calm", "lacks", "above", "hiccup",
         "see", "wrong", "look", "forget", "game", "summer", "image", "restore"};
+
+    private static final Map<String, Method> METHODS = new HashMap<>();
 
     private final Random random;
     private final SwordPeace program = new SwordPeace();
@@ -178,109 +184,36 @@ public final class OracleTest {
         if ((name.equals("takeIn") || name.equals("throats")) && oracle.waysToTakeIn() > 300_000) {
             return true;
         }
-        String due = answer(() -> call(oracle, name, a));
-        String got = answer(() -> call(program, name, a));
-        log.append(name).append(java.util.Arrays.toString(a)).append(" due ").append(due).append(", got ").append(got)
+        String due = answer(oracle, name, a);
+        String got = answer(program, name, a);
+        log.append(name).append(Arrays.toString(a)).append(" due ").append(due).append(", got ").append(got)
                 .append('\n');
         return due.equals(got);
     }
 
-    private static String answer(java.util.function.LongSupplier call) {
+    /** The answer as a text; an exception by its name; whatever the program should not throw ends in a difference. */
+    private static String answer(Object x, String name, int[] a) {
+        Method method = METHODS.computeIfAbsent(x.getClass().getName() + name + a.length, key -> find(x, name, a.length));
+        Object[] arguments = new Object[a.length];
+        for (int i = 0; i < a.length; i++) {
+            arguments[i] = method.getParameterTypes()[i] == boolean.class ? (Object) (a[i] == 1) : (Object) a[i];
+        }
         try {
-            return Long.toString(call.getAsLong());
-        } catch (NoSuchElementException | IllegalArgumentException e) {
-            return e.getClass().getSimpleName();
+            return String.valueOf(method.invoke(x, arguments));
+        } catch (InvocationTargetException e) {
+            return e.getCause().getClass().getSimpleName();
+        } catch (IllegalAccessException e) {
+            throw new IllegalStateException(e);
         }
     }
 
-    private static long call(SwordPeace x, String name, int[] a) {
-        switch (name) {
-            case "feed": return x.feed(a[0], a[1], a[2], a[3], a[4]);
-            case "city": return x.city(a[0]);
-            case "fault": return x.fault();
-            case "count": return x.count(a[0]);
-            case "blade": return x.blade(a[0], a[1]);
-            case "throat": return x.throat(a[0], a[1]);
-            case "feud": return x.feud(a[0], a[1]) ? 1 : 0;
-            case "days": return x.days(a[0]);
-            case "swallow": return x.swallow(a[0], a[1]);
-            case "draw": return x.draw(a[0]);
-            case "broth": return x.broth(a[0], a[1]);
-            case "make": return x.make(a[0], a[1], a[2] == 1) ? 1 : 0;
-            case "undo": return x.undo();
-            case "then": return x.then(a[0], a[1], a[2]);
-            case "peace": return x.peace();
-            case "fights": return x.fights(a[0]);
-            case "rests": return x.rests(a[0]);
-            case "worst": return x.worst(a[0]);
-            case "takeIn": return x.takeIn(a[0]);
-            case "throats": return x.throats();
-            case "toDraw": return x.toDraw(a[0]);
-            case "toSwallow": return x.toSwallow(a[0]);
-            case "camps": return x.camps();
-            case "couples": return x.couples();
-            case "grudge": return x.grudge(a[0]);
-            case "foes": return x.foes(a[0], a[1]);
-            case "parts": return x.parts();
-            case "calm": return x.calm(a[0]);
-            case "lacks": return x.lacks(a[0]);
-            case "above": return x.above(a[0]);
-            case "hiccup": return x.hiccup(a[0]);
-            case "see": return x.see(a[0], a[1], a[2]);
-            case "wrong": return x.wrong(a[0]);
-            case "look": return x.look(a[0]);
-            case "forget": x.forget(); return 0;
-            case "game": return x.game(a[0], a[1], a[2]);
-            case "summer": return x.summer(a[0], a[1], a[2]);
-            case "image": x.image(); return 0;
-            case "restore": return x.restore() ? 1 : 0;
-            default: throw new IllegalStateException(name);
+    private static Method find(Object x, String name, int parameters) {
+        for (Method method : x.getClass().getDeclaredMethods()) {
+            if (method.getName().equals(name) && method.getParameterCount() == parameters) {
+                return method;
+            }
         }
-    }
-
-    private static long call(Oracle x, String name, int[] a) {
-        switch (name) {
-            case "feed": return x.feed(a[0], a[1], a[2], a[3], a[4]);
-            case "city": return x.city(a[0]);
-            case "fault": return x.fault();
-            case "count": return x.count(a[0]);
-            case "blade": return x.blade(a[0], a[1]);
-            case "throat": return x.throat(a[0], a[1]);
-            case "feud": return x.feud(a[0], a[1]) ? 1 : 0;
-            case "days": return x.days(a[0]);
-            case "swallow": return x.swallow(a[0], a[1]);
-            case "draw": return x.draw(a[0]);
-            case "broth": return x.broth(a[0], a[1]);
-            case "make": return x.make(a[0], a[1], a[2] == 1) ? 1 : 0;
-            case "undo": return x.undo();
-            case "then": return x.then(a[0], a[1], a[2]);
-            case "peace": return x.peace();
-            case "fights": return x.fights(a[0]);
-            case "rests": return x.rests(a[0]);
-            case "worst": return x.worst(a[0]);
-            case "takeIn": return x.takeIn(a[0]);
-            case "throats": return x.throats();
-            case "toDraw": return x.toDraw(a[0]);
-            case "toSwallow": return x.toSwallow(a[0]);
-            case "camps": return x.camps();
-            case "couples": return x.couples();
-            case "grudge": return x.grudge(a[0]);
-            case "foes": return x.foes(a[0], a[1]);
-            case "parts": return x.parts();
-            case "calm": return x.calm(a[0]);
-            case "lacks": return x.lacks(a[0]);
-            case "above": return x.above(a[0]);
-            case "hiccup": return x.hiccup(a[0]);
-            case "see": return x.see(a[0], a[1], a[2]);
-            case "wrong": return x.wrong(a[0]);
-            case "look": return x.look(a[0]);
-            case "forget": x.forget(); return 0;
-            case "game": return x.game(a[0], a[1], a[2]);
-            case "summer": return x.summer(a[0], a[1], a[2]);
-            case "image": x.image(); return 0;
-            case "restore": return x.restore() ? 1 : 0;
-            default: throw new IllegalStateException(name);
-        }
+        throw new IllegalStateException(name);
     }
 
     // ---- texts
