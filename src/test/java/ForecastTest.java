@@ -35,6 +35,7 @@ public final class ForecastTest {
         String town = "feud 0 1;blade 0 1 39;blade 1 1 40;rises 1;patience ";
         Check.due("the day on which the later one has it", Check.city(town + "50;").peace(), 11);
         Check.due("the first day", Check.city(town + "40;").peace(), 1);
+        Check.due("day 59", Check.city(town + "98;").peace(), 59);
         Check.due("day 60", Check.city(town + "99;").peace(), 60);
         Check.due("not within 60", Check.city("feud 0 1;blade 0 1 38;blade 1 1 40;rises 1;patience 99;").peace(), -1);
         Check.due("no feud", Check.city("blade 0 1 99;blade 1 1 99;").peace(), -1);
@@ -101,6 +102,11 @@ public final class ForecastTest {
         Check.due("none makes it later", w.toSwallow(0), -1);
         SwordPeace v = Check.city("feud 0 1;swallower 1 1;swallower 9 0;blade 0 1 50;blade 1 9 50;rises 1;cools 1;");
         Check.due("the least swallower with room has hiccups", v.toSwallow(0), 1);
+        String late = "feud 0 1;swallower 1 0;blade 0 1 50;blade 1 2 99;rises 1;cools 0;blade 0 2 ";
+        Check.due("delay of 59", Check.city(late + "40;patience 99;").toSwallow(1), 59);
+        Check.due("delay of 60", Check.city(late + "39;patience 99;").toSwallow(1), 60);
+        Check.due("no fight within 60", Check.city(late + "38;patience 99;").toSwallow(1), -1);
+        Check.due("is latest of all", Check.city(late + "38;patience 99;").toSwallow(0), 0);
         Check.raises("toSwallow 2", Check.NO_SUCH, () -> x.toSwallow(2));
         Check.raises("toSwallow -1", Check.NO_SUCH, () -> x.toSwallow(-1));
     }

@@ -26,6 +26,10 @@ public final class GameTest {
         game("feud 0 1;", 4, 0);
         game("feud 0 1;feud 1 2;feud 0 2;swallower 13 3;swallower 10 2;blade 2 9 15;blade 0 7 66;blade 2 5 48;"
                 + "blade 1 7 2;patience 24;cools within*7;", 0, -1);
+        String one = "feud 0 1;swallower 39 0;blade 1 40 90;blade 0 1 90;rises 0;cools 0;";
+        game(one + "blade 0 1 1;".repeat(5), 2, 0);
+        game(one + "blade 0 1 1;".repeat(4), 4, 0);
+        game(one + "blade 0 1 1;".repeat(3), 2, 10);
         SwordPeace x = Check.city("feud 0 1;swallower 1 0;blade 0 2 90;blade 1 1 90;rises 99;cools 1;patience 90;");
         Check.due("only the other one finds room", x.game(0, 1, 0), 2);
         Check.due("0 and 1", x.game(0, 1, 1), 1);

@@ -64,8 +64,8 @@ public final class ImageTest {
         Check.due("forty again", x.count(9), 40);
         for (int i = 39; i >= 0; i--) {
             Check.due("undo", x.undo(), i);
+            Check.due("the day", x.count(4), 10 + i);
         }
-        Check.due("the day", x.count(4), 10);
     }
 
     private static int[] all(SwordPeace x) {

@@ -85,7 +85,13 @@ public final class TextTest {
         fault("feuds 0 1;", 1, 0);
         fault(";", 1, 0);
         fault("12345", 1, 0);
-        fault("" + (char) 200, 1, 0);
+        fault("xeud 0 1;", 1, 0);
+        for (char sign = 0; sign < 256; sign++) {
+            if (sign != 32 && sign != 10) {
+                fault("" + sign, 1, 0);
+                fault("patience 9;" + sign, 1, 11);
+            }
+        }
         fault("  #", 1, 2);
         fault("feud", 1, 4);
         fault("feud  ", 1, 6);
@@ -135,6 +141,14 @@ public final class TextTest {
         fine("rises anger+length+day+foes;");
         fault("rises within;", 3, 6);
         fault("rises above;", 3, 6);
+        fault("cools 1;rises within;", 3, 14);
+        fine("rises 1;cools within;");
+        fault("cools xnger;", 3, 6);
+        fault("cools z;", 3, 6);
+        fault("cools a;", 3, 6);
+        fault("cools " + (char) 1, 1, 6);
+        fault("cools " + (char) 2, 1, 6);
+        fault("cools 1" + (char) 0, 1, 7);
         fault("cools or 1;", 3, 6);
         fault("cools blade;", 3, 6);
         fault("cools angers;", 3, 6);
