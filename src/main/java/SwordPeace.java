@@ -206,7 +206,7 @@ public final class SwordPeace {
             return false;
         }
         now.keepAct();
-        quarrels.turn(house, other);
+        now.scene.turnFeud(house, other);
         return true;
     }
 
@@ -994,12 +994,16 @@ public final class SwordPeace {
 
     /** All that days and acts change, and how a day goes by. */
     private static final class Scene {
-        /** One row of cells, so that a whole scene is kept by one copy; ANGER stands first in it. */
+        /**
+         * One row of cells, so that a whole scene is kept by one copy; ANGER stands first in it. FOES follows from FEUD:
+         * all BLADES of the HOUSES that one is at feud with, so that days need not gather them again and again.
+         */
         static final int PLACE = MOST_BLADES;
         static final int STAMP = PLACE + MOST_BLADES;
         static final int ROOM = STAMP + MOST_BLADES;
         static final int FEUD = ROOM + MOST_SWALLOWERS;
-        static final int DAY = FEUD + HOUSES;
+        static final int FOES = FEUD + HOUSES;
+        static final int DAY = FOES + HOUSES;
         static final int FIGHTS = DAY + 1;
         static final int STAMPS = FIGHTS + 1;
         static final int SIZE = STAMPS + 1;
@@ -1008,7 +1012,6 @@ public final class SwordPeace {
         final int[] cells = new int[SIZE];
         final int[] fightsOf = new int[HOUSES];
         private final int[] atPlace = new int[AT_REST + 1];
-        private final int[] foesOf = new int[HOUSES];
         private final int[] change = new int[MOST_BLADES];
         private final Abacus abacus = new Abacus();
 
@@ -1023,7 +1026,21 @@ public final class SwordPeace {
             }
             System.arraycopy(city.anger, 0, cells, 0, city.blades);
             System.arraycopy(city.room, 0, cells, ROOM, city.swallowers);
-            System.arraycopy(city.foesOf, 0, cells, FEUD, HOUSES);
+            for (int h = 0; h < HOUSES; h++) {
+                for (int other = 0; other < h; other++) {
+                    if (((city.foesOf[h] >> other) & 1) != 0) {
+                        turnFeud(h, other);
+                    }
+                }
+            }
+        }
+
+        /** Makes a feud up, or there anew. */
+        void turnFeud(int house, int other) {
+            cells[FEUD + house] ^= 1 << other;
+            cells[FEUD + other] ^= 1 << house;
+            cells[FOES + house] ^= city.bladesOf[other];
+            cells[FOES + other] ^= city.bladesOf[house];
         }
 
         void copy(Scene other) {
@@ -1164,7 +1181,7 @@ public final class SwordPeace {
             cells[DAY]++;
         }
 
-        /** Who is where, and which BLADES each HOUSE is at feud with: the same for all changes of one day. */
+        /** Who is where is the same for all changes of one day. */
         private void lookRound() {
             for (int place = OUT; place <= AT_REST; place++) {
                 atPlace[place] = 0;
@@ -1175,15 +1192,6 @@ public final class SwordPeace {
                     atPlace[place] |= 1 << b;
                 }
             }
-            for (int h = 0; h < HOUSES; h++) {
-                int bits = 0;
-                for (int other = 0; other < HOUSES; other++) {
-                    if (((cells[FEUD + h] >> other) & 1) != 0) {
-                        bits |= city.bladesOf[other];
-                    }
-                }
-                foesOf[h] = bits;
-            }
         }
 
         /** One AT REST is with nobody: neither in a SWALLOWER nor OUT. */
@@ -1192,7 +1200,7 @@ public final class SwordPeace {
             if (place < OUT || place >= AT_REST) {
                 return 0;
             }
-            return Integer.bitCount(atPlace[place] & foesOf[city.house[blade]]);
+            return Integer.bitCount(atPlace[place] & cells[FOES + city.house[blade]]);
         }
 
         private int changeOf(int blade) {
@@ -1267,7 +1275,7 @@ public final class SwordPeace {
             if (((ready >> blade) & 1) == 0) {
                 return NONE;
             }
-            int foes = ready & foesOf[city.house[blade]];
+            int foes = ready & cells[FOES + city.house[blade]];
             for (int other = blade + 1; other < city.blades; other++) {
                 if (((foes >> other) & 1) != 0) {
                     return other;
@@ -1697,11 +1705,6 @@ public final class SwordPeace {
 
         boolean between(int house, int other) {
             return ((cells[Scene.FEUD + house] >> other) & 1) != 0;
-        }
-
-        void turn(int house, int other) {
-            cells[Scene.FEUD + house] ^= 1 << other;
-            cells[Scene.FEUD + other] ^= 1 << house;
         }
 
         int howMany() {

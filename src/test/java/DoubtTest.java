@@ -50,6 +50,9 @@ public final class DoubtTest {
         Check.due("no first", x.wrong(1), -1);
         Check.raises("wrong 3", Check.NO_SUCH, () -> x.wrong(3));
         Check.raises("wrong -1", Check.NO_SUCH, () -> x.wrong(-1));
+        x.forget();
+        x.see(0, 0, 99);
+        Check.due("99 is an anger, too", x.wrong(1), 99);
         Check.due("no blades, nothing wrong", new SwordPeace().wrong(0), 0);
         Check.due("but so", new SwordPeace().wrong(2), 1);
     }
