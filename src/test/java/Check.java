@@ -6,6 +6,11 @@ final class Check {
         long answer();
     }
 
+    /** A call on an object that is still to be made. */
+    interface Asked {
+        long of(SwordPeace x);
+    }
+
     static final Class<?> NO_SUCH = NoSuchElementException.class;
     static final Class<?> ILLEGAL = IllegalArgumentException.class;
 
@@ -65,6 +70,18 @@ final class Check {
             throw new IllegalStateException("fault " + fault + " at " + x.fault() + " of " + text);
         }
         return x;
+    }
+
+    /** A text's FAULT on a new object, its place, and that it counts in STATUS 0. */
+    static void fault(String text, int number, int place) {
+        SwordPeace x = new SwordPeace();
+        due("city of <" + text + ">", tell(x, text), number);
+        due("place in <" + text + ">", x.fault(), place);
+        due("status by <" + text + ">", x.count(12), number == 0 ? 0 : 1);
+    }
+
+    static void fine(String text) {
+        fault(text, 0, SwordPeace.NONE);
     }
 
     static void end(String name) {

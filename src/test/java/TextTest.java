@@ -63,129 +63,118 @@ public final class TextTest {
         Check.due("no fault now", x.fault(), -1);
     }
 
-    private static void fault(String text, int number, int place) {
-        SwordPeace x = new SwordPeace();
-        Check.due("city of <" + text + ">", Check.tell(x, text), number);
-        Check.due("place in <" + text + ">", x.fault(), place);
-        Check.due("status by <" + text + ">", x.count(12), number == 0 ? 0 : 1);
-    }
-
-    private static void fine(String text) {
-        fault(text, 0, -1);
-    }
-
     private static void faultsOfLines() {
-        fine("");
-        fine(" \n ");
-        fine("feud 0 1;");
-        fine("feud0 0001;");
-        fine("feud\n0\n5\n;\n");
-        fault("x", 1, 0);
-        fault("Feud 0 1;", 1, 0);
-        fault("feuds 0 1;", 1, 0);
-        fault(";", 1, 0);
-        fault("12345", 1, 0);
-        fault("xeud 0 1;", 1, 0);
+        Check.fine("");
+        Check.fine(" \n ");
+        Check.fine("feud 0 1;");
+        Check.fine("feud0 0001;");
+        Check.fine("feud\n0\n5\n;\n");
+        Check.fault("x", 1, 0);
+        Check.fault("Feud 0 1;", 1, 0);
+        Check.fault("feuds 0 1;", 1, 0);
+        Check.fault(";", 1, 0);
+        Check.fault("12345", 1, 0);
+        Check.fault("xeud 0 1;", 1, 0);
         for (char sign = 0; sign < 256; sign++) {
             if (sign != 32 && sign != 10) {
-                fault("" + sign, 1, 0);
-                fault("patience 9;" + sign, 1, 11);
+                Check.fault("" + sign, 1, 0);
+                Check.fault("patience 9;" + sign, 1, 11);
             }
         }
-        fault("  #", 1, 2);
-        fault("feud", 1, 4);
-        fault("feud  ", 1, 6);
-        fault("feud 0", 1, 6);
-        fault("feud 0 1", 1, 8);
-        fault("feud 0 1 2;", 1, 9);
-        fault("feud;0 1", 1, 4);
-        fault("feud a 1;", 1, 5);
-        fault("feud\t0 1;", 1, 4);
-        fault("feud 0 1;;", 1, 9);
-        fault("feud 6 1;", 2, 5);
-        fault("feud 00001 1;", 2, 5);
-        fault("feud 1 6;", 2, 7);
-        fault("feud 1 1;", 4, 7);
-        fault("feud 0 1;feud 1 0;", 4, 16);
-        fault("feud 0 1;feud 0 1;", 4, 16);
-        fine("swallower 1 0;swallower 99 30;");
-        fault("swallower 0 0;", 2, 10);
-        fault("swallower 100 0;", 2, 10);
-        fault("swallower 99 31;", 2, 13);
-        fault("swallower 99;", 1, 12);
-        fine("blade 0 1 0;blade 5 40 99;");
-        fault("blade 6 1 0;", 2, 6);
-        fault("blade 0 0 0;", 2, 8);
-        fault("blade 0 41 0;", 2, 8);
-        fault("blade 0 1 100;", 2, 10);
-        fault("blade 0 1;", 1, 9);
-        fault("blade 0 1 99999999999999;", 2, 10);
-        fine("patience 1;");
-        fault("patience 0;", 2, 9);
-        fault("patience 100;", 2, 9);
-        fault("patience 9;patience 9;", 5, 11);
-        fault("patience 9;patience x;", 5, 11);
+        Check.fault("  #", 1, 2);
+        Check.fault("feud", 1, 4);
+        Check.fault("feud  ", 1, 6);
+        Check.fault("feud 0", 1, 6);
+        Check.fault("feud 0 1", 1, 8);
+        Check.fault("feud 0 1 2;", 1, 9);
+        Check.fault("feud;0 1", 1, 4);
+        Check.fault("feud a 1;", 1, 5);
+        Check.fault("feud\t0 1;", 1, 4);
+        Check.fault("feud 0 1;;", 1, 9);
+        Check.fault("feud 6 1;", 2, 5);
+        Check.fault("feud 00001 1;", 2, 5);
+        Check.fault("feud 1 6;", 2, 7);
+        Check.fault("feud 1 1;", 4, 7);
+        Check.fault("feud 0 1;feud 1 0;", 4, 16);
+        Check.fault("feud 0 1;feud 0 1;", 4, 16);
+        Check.fine("swallower 1 0;swallower 99 30;");
+        Check.fault("swallower 0 0;", 2, 10);
+        Check.fault("swallower 100 0;", 2, 10);
+        Check.fault("swallower 99 31;", 2, 13);
+        Check.fault("swallower 99;", 1, 12);
+        Check.fine("blade 0 1 0;blade 5 40 99;");
+        Check.fault("blade 6 1 0;", 2, 6);
+        Check.fault("blade 0 0 0;", 2, 8);
+        Check.fault("blade 0 41 0;", 2, 8);
+        Check.fault("blade 0 1 100;", 2, 10);
+        Check.fault("blade 0 1;", 1, 9);
+        Check.fault("blade 0 1 99999999999999;", 2, 10);
+        Check.fine("patience 1;");
+        Check.fault("patience 0;", 2, 9);
+        Check.fault("patience 100;", 2, 9);
+        Check.fault("patience 9;patience 9;", 5, 11);
+        Check.fault("patience 9;patience x;", 5, 11);
     }
 
     private static void faultsOfRules() {
-        fine("cools 1;rises 1;");
-        fault("cools 1;cools 1;", 5, 8);
-        fault("rises 1;rises 1;", 5, 8);
-        fault("cools ;", 1, 6);
-        fault("cools", 1, 5);
-        fault("cools 1", 1, 7);
-        fault("cools 1 ", 1, 8);
-        fine("cools 9999;");
-        fault("cools 10000;", 2, 6);
-        fine("cools within+above+anger+length+day+foes;");
-        fine("rises anger+length+day+foes;");
-        fault("rises within;", 3, 6);
-        fault("rises above;", 3, 6);
-        fault("cools 1;rises within;", 3, 14);
-        fine("rises 1;cools within;");
-        fault("cools xnger;", 3, 6);
-        fault("cools z;", 3, 6);
-        fault("cools a;", 3, 6);
-        fault("cools " + (char) 1, 1, 6);
-        fault("cools " + (char) 2, 1, 6);
-        fault("cools 1" + (char) 0, 1, 7);
-        fault("cools or 1;", 3, 6);
-        fault("cools blade;", 3, 6);
-        fault("cools angers;", 3, 6);
-        fault("cools 1 or;", 1, 10);
-        fault("cools 1 or and;", 3, 11);
-        fault("cools 1+not 1;", 3, 8);
-        fault("cools 1<not 1;", 3, 8);
-        fine("cools 1 and not 1 or not not 0;");
-        fine("cools not 1=1;");
-        fine("cools (1<2)<3;");
-        fault("cools 1<2<3;", 1, 9);
-        fault("cools 1=2=3;", 1, 9);
-        fault("cools 1==1;", 1, 8);
-        fault("cools 1 1;", 1, 8);
-        fault("cools 1 anger;", 1, 8);
-        fault("cools 1 not 1;", 1, 8);
-        fault("cools -1;", 1, 6);
-        fault("cools (1;", 1, 8);
-        fault("cools 1);", 1, 7);
-        fault("cools ();", 1, 7);
-        fault("cools (1)(2);", 1, 9);
-        fine("cools (((((1)))));");
-        fine("rises (((((1)))))+(((((not 2)))));");
-        fault("cools ((((((1))))));", 2, 12);
-        fault("cools ((((((not 1))))));", 2, 12);
-        fault("cools ((((((xyz))))));", 2, 12);
-        fault("cools ((((((or))))));", 2, 12);
-        fault("cools (((((((1)))))));", 2, 12);
-        fault("cools ((((((12345))))));", 2, 12);
-        fault("cools (((((()))))));", 1, 12);
-        fault("cools ((((((+", 1, 12);
-        fault("cools ((((((#", 1, 12);
-        fault("cools ((((((  ", 1, 14);
-        fine("cools not not not not not not 1;");
-        fault("cools not not not not not not not 1;", 2, 30);
-        fine("cools not not not not not not (not not not not not not 1);");
-        fine("cools not not not not not not 1 and not not not not not not 1;");
+        Check.fine("cools 1;rises 1;");
+        Check.fault("cools 1;cools 1;", 5, 8);
+        Check.fault("rises 1;rises 1;", 5, 8);
+        Check.fault("cools ;", 1, 6);
+        Check.fault("cools", 1, 5);
+        Check.fault("cools 1", 1, 7);
+        Check.fault("cools 1 ", 1, 8);
+        Check.fine("cools 9999;");
+        Check.fault("cools 10000;", 2, 6);
+        Check.fine("cools within+above+anger+length+day+foes;");
+        Check.fine("rises anger+length+day+foes;");
+        Check.fault("rises within;", 3, 6);
+        Check.fault("rises above;", 3, 6);
+        Check.fault("cools 1;rises within;", 3, 14);
+        Check.fine("rises 1;cools within;");
+        Check.fault("cools xnger;", 3, 6);
+        Check.fault("cools z;", 3, 6);
+        Check.fault("cools a;", 3, 6);
+        Check.fault("cools " + (char) 1, 1, 6);
+        Check.fault("cools " + (char) 2, 1, 6);
+        Check.fault("cools 1" + (char) 0, 1, 7);
+        Check.fault("cools or 1;", 3, 6);
+        Check.fault("cools blade;", 3, 6);
+        Check.fault("cools angers;", 3, 6);
+        Check.fault("cools 1 or;", 1, 10);
+        Check.fault("cools 1 or and;", 3, 11);
+        Check.fault("cools 1+not 1;", 3, 8);
+        Check.fault("cools 1<not 1;", 3, 8);
+        Check.fine("cools 1 and not 1 or not not 0;");
+        Check.fine("cools not 1=1;");
+        Check.fine("cools (1<2)<3;");
+        Check.fault("cools 1<2<3;", 1, 9);
+        Check.fault("cools 1=2=3;", 1, 9);
+        Check.fault("cools 1==1;", 1, 8);
+        Check.fault("cools 1 1;", 1, 8);
+        Check.fault("cools 1 anger;", 1, 8);
+        Check.fault("cools 1 not 1;", 1, 8);
+        Check.fault("cools -1;", 1, 6);
+        Check.fault("cools (1;", 1, 8);
+        Check.fault("cools 1);", 1, 7);
+        Check.fault("cools ();", 1, 7);
+        Check.fault("cools (1)(2);", 1, 9);
+        Check.fine("cools (((((1)))));");
+        Check.fine("rises (((((1)))))+(((((not 2)))));");
+        Check.fault("cools ((((((1))))));", 2, 12);
+        Check.fault("cools ((((((not 1))))));", 2, 12);
+        Check.fault("cools ((((((xyz))))));", 2, 12);
+        Check.fault("cools ((((((or))))));", 2, 12);
+        Check.fault("cools (((((((1)))))));", 2, 12);
+        Check.fault("cools ((((((12345))))));", 2, 12);
+        Check.fault("cools (((((()))))));", 1, 12);
+        Check.fault("cools ((((((+", 1, 12);
+        Check.fault("cools ((((((#", 1, 12);
+        Check.fault("cools ((((((  ", 1, 14);
+        Check.fine("cools not not not not not not 1;");
+        Check.fault("cools not not not not not not not 1;", 2, 30);
+        Check.fine("cools not not not not not not (not not not not not not 1);");
+        Check.fine("cools not not not not not not 1 and not not not not not not 1;");
     }
 
     private static void tooMany() {
@@ -197,14 +186,14 @@ public final class TextTest {
                 many++;
             }
         }
-        fine(feuds.toString());
-        fault(feuds + "feud 4 5;", 2, 81);
-        fault(feuds + "feud;", 2, 81);
-        fine("swallower 9 0;".repeat(5));
-        fault("swallower 9 0;".repeat(6), 2, 70);
-        fine("blade 0 1 0;".repeat(10));
-        fault("blade 0 1 0;".repeat(11), 2, 120);
-        fine("rises " + "1+".repeat(346) + "1;");
+        Check.fine(feuds.toString());
+        Check.fault(feuds + "feud 4 5;", 2, 81);
+        Check.fault(feuds + "feud;", 2, 81);
+        Check.fine("swallower 9 0;".repeat(5));
+        Check.fault("swallower 9 0;".repeat(6), 2, 70);
+        Check.fine("blade 0 1 0;".repeat(10));
+        Check.fault("blade 0 1 0;".repeat(11), 2, 120);
+        Check.fine("rises " + "1+".repeat(346) + "1;");
     }
 
     private static void faultLeavesAll() {
