@@ -87,6 +87,13 @@ final class State {
         leftAlone(what, x, SwordPeace.NONE);
     }
 
+    /** A question leaves all as it was. */
+    static void leaves(String what, Check.Asked question) {
+        SwordPeace x = busy();
+        question.of(x);
+        leftAlone(what, x, SwordPeace.NONE);
+    }
+
     private static void leftAlone(String what, SwordPeace x, int status) {
         SwordPeace twin = busy();
         int[] due = of(twin);
