@@ -291,6 +291,8 @@ public final class AskBoundsTest {
     private static void throatsByRoom() {
         Check.due("just room", Check.city("swallower 9 0;blade 0 4 1;blade 0 5 1;").throats(), 1);
         Check.due("less by one", Check.city("swallower 8 0;blade 0 4 1;blade 0 5 1;").throats(), -1);
+        Check.due("more by one", Check.city("swallower 10 0;blade 0 4 1;blade 0 5 1;").throats(), 1);
+        Check.due("much more", Check.city("swallower 99 0;swallower 99 0;blade 0 1 1;").throats(), 1);
         Check.due("two", Check.city("swallower 8 0;swallower 1 0;blade 0 8 1;blade 0 1 1;").throats(), 3);
         Check.due("together, but not so", Check.city("swallower 8 0;swallower 2 0;blade 0 5 1;blade 0 5 1;").throats(), -1);
         Check.due("five", Check.city("swallower 40 0;".repeat(5) + "blade 0 20 1;".repeat(10)).throats(), 31);

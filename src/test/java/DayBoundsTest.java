@@ -94,6 +94,16 @@ public final class DayBoundsTest {
         rule("2=1", 0);
         rule("2=3", 0);
         rule("not 8192*8192*32", 0);
+        rule("1 and not 0", 1);
+        rule("1 and not 1", 0);
+        rule("0 or not 0", 1);
+        rule("9*(not 0)", 9);
+        for (String none : new String[] {"0 or 0", "9 and 0", "0 and 9", "not 9", "9<9", "9=8"}) {
+            rule("5+(" + none + ")", 5);
+        }
+        for (String one : new String[] {"0 or 9", "9 or 0", "9 and 8", "not 0", "8<9", "9=9"}) {
+            rule("5+(" + one + ")", 6);
+        }
     }
 
     // "From the left"

@@ -266,6 +266,15 @@ public final class SeenBoundsTest {
         SwordPeace x = Check.city("swallower 1 0;blade 0 1 99;cools 33;");
         x.swallow(0, 0);
         Check.due("all have none", x.look(1), 1);
+        SwordPeace y = Check.city("blade 0 1 99;rises 10;");
+        y.see(0, 10, 99);
+        Check.due("from now on, not from the day that was seen", y.look(1), 70);
+        y.see(0, 0, 20);
+        Check.due("20 alone", y.look(1), 1);
+        SwordPeace z = Check.city("blade 0 1 99;rises (day<3)*10;");
+        z.see(0, 10, 99);
+        Check.due("69 to 98", z.wrong(0), 30);
+        Check.due("all have 99 in 3 days", z.look(1), 1);
     }
 
     // Promise 37: "IllegalArgumentException (behind that): they aren't at feud."
@@ -296,6 +305,7 @@ public final class SeenBoundsTest {
         SwordPeace x = Check.city("feud 0 1;" + town);
         Check.due(when + ": how many", x.game(0, 1, 0), many);
         Check.due(when + ": the first", x.game(0, 1, 1), first);
+        Check.due(when + ": how many, asked again", x.game(0, 1, 0), many);
     }
 
     private static void gameOfNone() {
@@ -562,9 +572,10 @@ public final class SeenBoundsTest {
         x.make(0, 1, false);
         x.make(4, 5, true);
         x.days(0);
-        x.see(0, 1, 1);
-        x.see(0, 99, 1);
         x.forget();
+        x.see(0, 1, 1);
+        x.see(1, 0, 33);
+        x.see(0, 99, 1);
         Check.due("a fault", x.city(9), 1);
         Check.due("restored", x.restore(), true);
         kept[State.TAPE] = 0;

@@ -13,6 +13,8 @@ public final class TextBoundsTest {
         faultIsTheLatestCitys();
         aFaultLeavesAllButStatus();
         aCityIsAllAnew();
+        aCityIsAllAnewAfterMany();
+        longRulesAgainAndAgain();
         aTextOf700Bytes();
         tokens();
         blanks();
@@ -209,6 +211,40 @@ public final class TextBoundsTest {
         Check.due("no rule of before", y.blade(0, 6), 0);
         y.swallow(0, 0);
         Check.due("nor here", y.blade(0, 6), 2);
+    }
+
+    // Promise 3: "all anew", however much was told, or broken off by a FAULT, before
+    private static void aCityIsAllAnewAfterMany() {
+        String full = NINE_FEUDS + "swallower 9 2;".repeat(5) + "blade 1 3 9;".repeat(10) + "patience 7;cools 5;rises 6;";
+        String small = "feud 0 1;swallower 8 0;blade 0 2 30;blade 1 3 40;blade 2 4 50;";
+        String other = "feud 0 1;swallower 8 0;blade 2 2 30;blade 0 3 40;blade 3 4 50;";
+        SwordPeace x = new SwordPeace();
+        for (int i = 0; i < 3; i++) {
+            Check.due("as much as may be, time " + i, Check.tell(x, full), 0);
+        }
+        tellsAnew("after three", x, small, 0);
+        tellsAnew("other houses", x, other, 0);
+        tellsAnew("and the first ones", x, small, 0);
+        for (int i = 1; i <= 2; i++) {
+            Check.due("as much, then a fault", Check.tell(x, full + "?"), 1);
+            tellsAnew("after a fault", x, other, i);
+        }
+    }
+
+    private static void tellsAnew(String when, SwordPeace x, String text, int faults) {
+        Check.due(when + ": city", Check.tell(x, text), 0);
+        int[] due = State.of(Check.city(text));
+        due[State.STATUS] = faults;
+        State.same(when, State.of(x), due);
+    }
+
+    private static void longRulesAgainAndAgain() {
+        String text = "blade 0 1 9;rises 0" + "+1+0".repeat(85) + ";";
+        SwordPeace x = new SwordPeace();
+        for (int i = 0; i < 20; i++) {
+            Check.due("a long rule, time " + i, Check.tell(x, text), 0);
+            Check.due("is worked out, time " + i, x.blade(0, 6), 85);
+        }
     }
 
     // "A TEXT of at most 700 bytes tells it."
