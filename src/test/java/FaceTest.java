@@ -12,11 +12,50 @@ import java.util.regex.Pattern;
 
 /** The public face is the document's and no other; the source keeps to what can be seen of LANGUAGE.md by its words. */
 public final class FaceTest {
-    private static final String FACE = "feed(IIIII)I city(I)I fault()I count(I)I blade(II)I throat(II)I feud(II)Z "
-            + "days(I)I swallow(II)I draw(I)I broth(II)I make(IIZ)Z undo()I then(III)I peace()I fights(I)I rests(I)I "
-            + "worst(I)I takeIn(I)I throats()I toDraw(I)I toSwallow(I)I camps()I couples()I grudge(I)I foes(II)I "
-            + "parts()I calm(I)I lacks(I)I above(I)I hiccup(I)I see(III)I wrong(I)I look(I)I forget()V game(III)I "
-            + "summer(III)I image()V restore()Z";
+    /** The document's public face, row by row. */
+    private static final String FACE = """
+            public static final int NONE = -1;
+            public SwordPeace();
+            public int feed(int a, int b, int c, int d, int e);
+            public int city(int n) throws IllegalArgumentException;
+            public int fault();
+            public int count(int what) throws NoSuchElementException;
+            public int blade(int blade, int what) throws NoSuchElementException;
+            public int throat(int swallower, int what) throws NoSuchElementException;
+            public boolean feud(int house, int other) throws NoSuchElementException;
+            public int days(int many);
+            public int swallow(int blade, int swallower) throws NoSuchElementException;
+            public int draw(int swallower) throws NoSuchElementException;
+            public int broth(int swallower, int more) throws NoSuchElementException;
+            public boolean make(int house, int other, boolean feud) throws NoSuchElementException;
+            public int undo();
+            public int then(int blade, int days, int what) throws NoSuchElementException, IllegalArgumentException;
+            public int peace();
+            public int fights(int days) throws IllegalArgumentException;
+            public int rests(int blade) throws NoSuchElementException;
+            public int worst(int days) throws IllegalArgumentException;
+            public int takeIn(int blade) throws NoSuchElementException;
+            public int throats();
+            public int toDraw(int blade) throws NoSuchElementException;
+            public int toSwallow(int what) throws NoSuchElementException;
+            public int camps();
+            public int couples();
+            public int grudge(int house) throws NoSuchElementException;
+            public int foes(int house, int other) throws NoSuchElementException;
+            public int parts();
+            public int calm(int days) throws IllegalArgumentException;
+            public int lacks(int blade) throws NoSuchElementException;
+            public int above(int blade) throws NoSuchElementException;
+            public int hiccup(int swallower) throws NoSuchElementException;
+            public int see(int blade, int days, int anger) throws NoSuchElementException;
+            public int wrong(int what) throws NoSuchElementException;
+            public int look(int what) throws NoSuchElementException;
+            public void forget();
+            public int game(int house, int other, int what) throws NoSuchElementException, IllegalArgumentException;
+            public int summer(int seed, int n, int what) throws NoSuchElementException, IllegalArgumentException;
+            public void image();
+            public boolean restore();
+            """;
 
     public static void main(String[] args) throws IOException {
         face();
@@ -26,34 +65,48 @@ public final class FaceTest {
     }
 
     private static void face() {
-        Set<String> due = new TreeSet<>(Set.of(FACE.split(" ")));
         Set<String> got = new TreeSet<>();
         Set<String> names = new TreeSet<>();
         for (Method m : SwordPeace.class.getDeclaredMethods()) {
             if (Modifier.isPublic(m.getModifiers())) {
-                got.add(m.getName() + m.toString().replaceAll(".*\\((.*)\\).*", "($1)").replace("int", "I")
-                        .replace("boolean", "Z").replace(",", "")
-                        + m.getReturnType().descriptorString());
+                got.add(told(m.toString(), m.getName()));
                 names.add(m.getName());
             } else {
                 Check.due(m + " is private", Modifier.isPrivate(m.getModifiers()), true);
             }
         }
-        Check.due("the public methods are " + got, got.equals(due), true);
+        for (Constructor<?> c : SwordPeace.class.getDeclaredConstructors()) {
+            got.add(told(c.toString(), "SwordPeace"));
+        }
+        for (Field f : SwordPeace.class.getDeclaredFields()) {
+            boolean hidden = Modifier.isPrivate(f.getModifiers());
+            Check.due(f + " is private", hidden, !f.getName().equals("NONE"));
+            if (!hidden) {
+                got.add(told(f.toString(), f.getName()));
+            }
+        }
+        Check.due("the face is " + got, got.equals(dueFace()), true);
         for (Class<?> c : SwordPeace.class.getDeclaredClasses()) {
             for (Method m : c.getDeclaredMethods()) {
                 Check.due(m + " has a name of its own", names.contains(m.getName()), false);
             }
         }
-        for (Field f : SwordPeace.class.getDeclaredFields()) {
-            Check.due(f + " is private", Modifier.isPrivate(f.getModifiers()), !f.getName().equals("NONE"));
-        }
-        Constructor<?>[] made = SwordPeace.class.getDeclaredConstructors();
-        Check.due("one constructor", made.length, 1);
-        Check.due("it is public", Modifier.isPublic(made[0].getModifiers()), true);
         Check.due("the class is public and final",
                 Modifier.isPublic(SwordPeace.class.getModifiers()) && Modifier.isFinal(SwordPeace.class.getModifiers()), true);
         Check.due("NONE", SwordPeace.NONE, -1);
+    }
+
+    /** The document's rows as a member tells itself: without parameters' names, values and blanks that join them. */
+    private static Set<String> dueFace() {
+        Set<String> due = new TreeSet<>();
+        for (String row : FACE.strip().split("\n")) {
+            due.add(row.replaceAll("(int|boolean) \\w+([,)])", "$1$2").replaceAll(" = -1|;", "").replace(", ", ","));
+        }
+        return due;
+    }
+
+    private static String told(String member, String name) {
+        return member.replace("SwordPeace." + name, name).replaceAll("java\\.(lang|util)\\.", "");
     }
 
     private static void classes() {
